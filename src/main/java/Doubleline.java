@@ -1,8 +1,8 @@
 import java.util.NoSuchElementException;
 
 /**
- * A line of numbers: eight slots, each with a double, held as its bits (sign and size), for of two
- * numbers with the same bits the document says that they are the same, and of no others.
+ * Eight slots with a number each. A number is held as its bits, not as a double: two numbers are the
+ * same, as the document means it, just if their bits are, also where they are 0 and -0.
  */
 public final class Doubleline {
     private static final int SLOTS = 8;
@@ -357,7 +357,7 @@ public final class Doubleline {
         return true;
     }
 
-    /** Lets a slot become a number, keeps what it held for undo, and returns the new place. */
+    /** The one way to let a slot become something, so that none is left out of what undo knows. */
     private long become(int slot, long number) {
         past.keep(slot, slots[slot]);
         slots[slot] = number;
@@ -463,7 +463,6 @@ public final class Doubleline {
             return opposite(raised(opposite(number), steps));
         }
 
-        /** One step towards a goal. */
         static long nearer(long number, long goal) {
             int order = order(number, goal);
             if (order == 0) {
@@ -568,7 +567,7 @@ public final class Doubleline {
     private static final class Measure {
         private static final int PART_BITS = 32;
         private static final long PART = 0xFFFFFFFFL;
-        private static final int PARTS = 67;
+        private static final int PARTS = 66; // four numbers have less than 2101 bits together
 
         static int sizeRest(long number, int modulus) {
             long rest = Line.whole(number) % modulus * powerRest(Line.shift(number), modulus);
@@ -585,7 +584,6 @@ public final class Doubleline {
             return number < 0 ? -rest : rest;
         }
 
-        /** What 2 to a power leaves. */
         private static long powerRest(int power, int modulus) {
             long rest = 1 % modulus;
             long square = 2 % modulus;
@@ -620,7 +618,7 @@ public final class Doubleline {
             if (carry < 0) {
                 return -1;
             }
-            return hasBits || carry > 0 ? 1 : 0;
+            return hasBits ? 1 : 0;
         }
 
         /** The 32 bits from 32 times the index on of how many grains a number has, with its sign. */
@@ -636,7 +634,6 @@ public final class Doubleline {
         }
     }
 
-    /** The row of words. */
     private static final class Row {
         private static final int MOST_WORDS = 40;
         private static final int MOST_WORD_STEPS = 15;

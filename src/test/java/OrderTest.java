@@ -37,6 +37,11 @@ public final class OrderTest {
         Check.due("20: least() of 0 and -0", Check.with(1, 1, 0.0, -0.0, 1, 1, 1, 1).least(), 2);
         Check.due("20: least() of -0 and 0", Check.with(1, 1, -0.0, 0.0, 1, 1, 1, 1).least(), 2);
         Check.due("20: least() is the last", Check.with(5, 4, 3, 2, 1, 0, -1, -2).least(), 7);
+        for (int i = 0; i < 8; i++) {
+            Doubleline x = new Doubleline();
+            x.set(i, -1, 0);
+            Check.due("20: least() is " + i, x.least(), i);
+        }
         Check.due("20: least() is the first of two", Check.with(5, 4, -3, 2, 1, -3, -1, -2).least(), 2);
     }
 

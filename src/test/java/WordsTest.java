@@ -79,6 +79,13 @@ public final class WordsTest {
         Check.due("34: say after it", x.say('u', 2), 1);
         x.play(0, 1);
         Check.due("34: just the new word is played", x.bits(1), Double.doubleToRawLongBits(1.5) + 2);
+        x.playBack(0, 1);
+        Check.due("34: just the new word is played back", x.bits(1), Double.doubleToRawLongBits(1.5) - 2);
+        x.end(0, true);
+        Check.due("34: just the new word loses something", x.losses(0), 1);
+        x.set(0, 3, 0);
+        Check.due("34: just the new word, far below", x.losses(0), 0);
+        Check.due("34: just the new word leads home", x.isHome(0), true);
     }
 
     private static void rows() {
