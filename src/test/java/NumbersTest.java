@@ -34,12 +34,9 @@ public final class NumbersTest {
         Check.due("2: set(0, 1, 0)", x.set(0, 1, 0), 1);
         Check.due("2: set(7, 1, 128)", x.set(7, 1, 128), 4607182418800017408L);
         Check.due("2: bits(7)", x.bits(7), 4607182418800017408L);
-        x = new Doubleline();
         for (int power = 0; power <= 255; power++) {
+            x = power % 16 == 0 ? new Doubleline() : x; // an object is for 512 calls
             for (int factor : new int[] {-128, -127, -1, 0, 1, 3, 100, 127}) {
-                if (power % 64 == 0) {
-                    x = new Doubleline();
-                }
                 double want = Model.handed(factor, power);
                 String call = "2: set(1, " + factor + ", " + power + ")";
                 Check.due(call, x.set(1, factor, power), Model.place(want));
